@@ -975,9 +975,9 @@ public final class TubSteps {
         private void letWaterDown() {
             for (int tub = LOWEST_TUB; tub > 0; tub--) {
                 warmth[tub] = Math.max(warmth[tub - 1] - 4, 0);
-                for (int scent = 0; scent < SCENTS; scent++) {
-                    setScent(tub, scent, stepFurther(scentIn(tub - 1, scent)));
-                }
+            }
+            for (int i = TUBS * SCENTS - 1; i >= SCENTS; i--) {
+                scents[i] = stepFurther(scents[i - SCENTS]);
             }
             pullPlug(0);
             warmth[0] = newWarmth;
@@ -1244,10 +1244,9 @@ public final class TubSteps {
                 return false;
             }
             into.warmth[tub] = warmth;
-            return !passWord("of") || readScent(into, tub);
-        }
-
-        private boolean readScent(Spa into, int tub) {
+            if (!passWord("of")) {
+                return true;
+            }
             int scent = passNumber(SCENTS - 1);
             if (scent < 0) {
                 return false;
@@ -1335,18 +1334,14 @@ public final class TubSteps {
                 }
             } else if (isDigit(first)) {
                 token = NUMBER;
-                readDigits();
+                value = 0;
+                while (end < length && isDigit(byteAt(end))) {
+                    // kept just above the greatest number, however many digits come
+                    value = Math.min(value * 10 + byteAt(end) - '0', MOST_NUMBER + 1);
+                    end++;
+                }
             } else {
                 token = first == ';' ? SIGN : NO_TOKEN;
-                end++;
-            }
-        }
-
-        private void readDigits() {
-            value = 0;
-            while (end < length && isDigit(byteAt(end))) {
-                // kept just above the greatest number, however many digits come
-                value = Math.min(value * 10 + byteAt(end) - '0', MOST_NUMBER + 1);
                 end++;
             }
         }

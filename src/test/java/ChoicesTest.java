@@ -47,6 +47,8 @@ final class ChoicesTest {
         C.due("seat(-1, 0)", x.seat(-1, 0), Check.BEYOND);
         TubSteps late = Check.spa("clerk; duchess in 5 with 1");
         C.due("with the duchess it is soonest", late.seat(0, 1), 5);
+        TubSteps near = Check.spa("bather; bather in 1 with 1; bather in 2 with 1; tub 7 0 of 1 400");
+        C.due("one hour in 8, two in 2", near.seat(0, 1), 8);
     }
 
     private static void promise21KindFor() {
@@ -98,8 +100,12 @@ final class ChoicesTest {
         x.change(0, 3, 0);
         x.scent(0, 1, 1320);
         C.due("9995 are enough, 9985 not", x.hides(0, 2, 1, 1), 9990);
+        x.scent(0, 2, 9);
+        C.due("9999 are enough, 9989 not", x.hides(0, 2, 1, 1), 9990);
         x.scent(0, 2, 0);
         C.due("9990 are not", x.hides(0, 2, 1, 1), Check.NONE);
+        x.scent(0, 2, 10);
+        C.due("10 and 9980 are not", x.hides(0, 2, 1, 1), Check.NONE);
         C.due("hides(0, 1, 1, 0)", x.hides(0, 1, 1, 0), Check.BEYOND);
         C.due("hides(10, 0, 1, 0)", x.hides(10, 0, 1, 0), Check.BEYOND);
         C.due("hides(-1, 0, 1, 0)", x.hides(-1, 0, 1, 0), Check.BEYOND);
@@ -110,7 +116,7 @@ final class ChoicesTest {
         C.due("hides(0, 0, 1, 21)", x.hides(0, 0, 1, 21), Check.BEYOND);
         C.due("hides(0, 0, 1, -1)", x.hides(0, 0, 1, -1), Check.BEYOND);
         x.scent(0, 1, 200);
-        C.due("20 hours are as good", x.hides(0, 2, 1, 20), 1040);
+        C.due("20 hours are as good, with 10 there", x.hides(0, 2, 1, 20), 1030);
     }
 
     private static void promise24Leave() {
@@ -122,6 +128,7 @@ final class ChoicesTest {
         C.due("the clerk knows already", x.leave(1, 1), 0);
         TubSteps two = Check.spa("duchess with 1; duchess with 1; clerk; clerk; clerk");
         C.due("the two duchesses", two.leave(1, 1), 3);
+        C.due("but they have not left", two.ahead(0, 1, 1), 256);
         two.change(3, 1, 9);
         two.change(4, 1, 9);
         C.due("the one clerk who is near", two.leave(1, 1), 4);
@@ -149,6 +156,14 @@ final class ChoicesTest {
         C.due("plugFor(2, 40)", x.plugFor(2, 40), 0);
         x.change(0, 3, 2);
         C.due("plugFor(1, 1): one knows already", x.plugFor(1, 1), 7);
+        TubSteps many = Check.spa("tub 3 0 of 1 2000");
+        for (int i = 0; i < 8; i++) {
+            many.bather(2, 4);
+            many.change(i, 3, i == 5 ? 0 : 2);
+        }
+        C.due("seven know already", many.plugFor(1, 1), 3);
+        many.change(5, 3, 2);
+        C.due("all eight do", many.plugFor(1, 1), 0);
         C.due("plugFor(4, 0)", x.plugFor(4, 0), Check.BEYOND);
         C.due("plugFor(-1, 0)", x.plugFor(-1, 0), Check.BEYOND);
         C.due("plugFor(0, 41)", x.plugFor(0, 41), Check.BEYOND);

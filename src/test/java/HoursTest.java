@@ -95,15 +95,21 @@ final class HoursTest {
         }
         C.due("now(0)", x.now(0), 99960);
         C.due("go(40) would be one too far", x.go(40), Check.STATE);
+        x.image();
+        C.due("go(39) is not", x.go(39), 54);
+        C.due("undo()", x.undo(), 99960);
         C.due("go(19)", x.go(19), 54);
         C.due("go(21) would be one too far", x.go(21), Check.STATE);
-        C.due("go(20)", x.go(20), 54);
+        C.due("go(1)", x.go(1), 54);
+        C.due("plugs(20) would be one too far", x.plugs(20), Check.STATE);
+        C.due("plugs(19)", x.plugs(19), x.now(1));
         C.due("now(0)", x.now(0), 99999);
         C.due("go(1) beyond it", x.go(1), Check.STATE);
         C.due("plugs(1) beyond it", x.plugs(1), Check.STATE);
         C.due("go(41) there", x.go(41), Check.BEYOND);
         C.due("now(0) as it was", x.now(0), 99999);
         C.due("ahead goes on", x.ahead(9, 4, 60), 54);
+        C.due("two findings of going, one of plugs, two at the end", x.status(4), 5);
     }
 
     private static void promise12Now() {
@@ -168,11 +174,15 @@ final class HoursTest {
         C.due("when(0, 1)", x.when(0, 1), 2);
         C.due("when(0, 2)", x.when(0, 2), Check.NONE);
         C.due("when(0, 0): its own", x.when(0, 0), Check.NONE);
+        x.go(40);
+        x.change(0, 3, 0);
+        x.change(0, 1, 3);
+        C.due("when(0, 1): by how all is now", x.when(0, 1), Check.NONE);
         C.due("when(0, 4)", x.when(0, 4), Check.BEYOND);
         C.due("when(0, -1)", x.when(0, -1), Check.BEYOND);
         C.due("when(2, 0)", x.when(2, 0), Check.BEYOND);
         C.due("when(-1, 0)", x.when(-1, 0), Check.BEYOND);
-        C.due("now(0)", x.now(0), 0);
+        C.due("now(0)", x.now(0), 40);
     }
 
     private static void promise16Cold() {

@@ -63,8 +63,12 @@ final class SheetsTest {
         C.due("one is there", x.load(1), 1);
         C.due("none is there, but the sheet is", x.load(3), 0);
         C.due("sheet(2) is missing", x.load(2), Check.MISSING);
+        x.write(0, 0, 5);
         x.write(0, 39, 5);
         C.due("sheet(0, 8, 40) again", x.sheet(0, 8, 40), 40);
+        x.warm(0, 50);
+        x.load(0);
+        C.due("its first is 0 again", x.tub(0, 4), 0);
         C.due("a copy of what is 0 again", x.copy(0, 39, 0, 0, 1), 1);
         x.warm(0, 50);
         x.load(0);

@@ -80,6 +80,12 @@ final class TextTest {
         C.due("tub(3, 6)", x.tub(3, 6), 0);
         C.due("tub(3, 4)", x.tub(3, 4), 0);
         C.due("now(0)", x.now(0), 0);
+        x.fresh(50);
+        C.due("fresh 0", Check.read(x, "tub 0 5 of 0 5; fresh 0; plug 0; sad in 0 with 0 knows 0"), 4);
+        C.due("fresh(1)", x.fresh(1), 0);
+        C.due("tub(0, 4)", x.tub(0, 4), 0);
+        C.due("tub(0, 6)", x.tub(0, 6), 0);
+        C.due("of(0, 0)", x.of(0, 0), 5);
     }
 
     /** Reads a text whose fault is marked by a | ahead of it. */
@@ -103,7 +109,7 @@ final class TextTest {
             "tub |x", "fresh |", "fresh |100", "fresh 9 |9", "fresh |;", "plug |", "plug |10", "plug 9 |x", "plug |sad",
             "tub 0 0 |in 5", "fresh 1;plug 1;|fres 1", "sad;sad|-", "sad in |99999999999999999999", "sad |i",
             "sad in|\n1", "sad |inn 1", "sad |IN 1", "sad|.", "|lamplighters", "|bathe", "|duches", "|clerks", "|spi",
-            "tub 0 0|off 1 1"};
+            "tub 0 0|off 1 1", "|bad", "|dub 0 0", "|sadz", "|asad", "|zsad", "sad |on 1"};
         for (String each : marked) {
             fault(each);
         }
