@@ -129,6 +129,7 @@ final class ChoicesTest {
         TubSteps two = Check.spa("duchess with 1; duchess with 1; clerk; clerk; clerk");
         C.due("the two duchesses", two.leave(1, 1), 3);
         C.due("but they have not left", two.ahead(0, 1, 1), 256);
+        C.due("nor have the clerks", two.ahead(0, 0, 1), 96);
         two.change(3, 1, 9);
         two.change(4, 1, 9);
         C.due("the one clerk who is near", two.leave(1, 1), 4);
