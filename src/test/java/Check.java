@@ -10,13 +10,19 @@ final class Check {
 
     private int wrong = 0;
     private int asked = 0;
+    private String sentence = "";
+
+    /** The words of the document that the next answers are due by; they are told with each that differs. */
+    void sentence(String words) {
+        sentence = "[" + words + "] ";
+    }
 
     void due(String call, long got, long want) {
         asked++;
         if (got != want) {
             wrong++;
             if (wrong <= 40) {
-                System.out.println(call + " answered " + got + ", due is " + want);
+                System.out.println(sentence + call + " answered " + got + ", due is " + want);
             }
         }
     }
@@ -33,10 +39,15 @@ final class Check {
         }
     }
 
-    /** Puts a text behind the tape, byte by byte. */
+    /** Puts a text behind the tape, by fours, since an object has 512 calls only. */
     static void feed(TubSteps x, String text) {
-        for (int i = 0; i < text.length(); i++) {
-            x.feed(text.charAt(i), 1);
+        for (int at = 0; at < text.length(); at += 4) {
+            int n = Math.min(4, text.length() - at);
+            int bytes = 0;
+            for (int i = 0; i < n; i++) {
+                bytes = bytes << 8 | text.charAt(at + i);
+            }
+            x.feed(bytes, n);
         }
     }
 
