@@ -11,6 +11,7 @@ final class EdgesChoicesTest {
         promise19None();
         promise19Least();
         promise20Seat();
+        promise20Soonest();
         promise20None();
         promise20Least();
         promise21KindFor();
@@ -75,6 +76,21 @@ final class EdgesChoicesTest {
         C.due("the lowest TUB", low.seat(0, 1), 9);
         TubSteps gone = Check.spa("clerk; tub 9 0 of 1 9999");
         C.due("what is in 9 is gone behind an HOUR", gone.seat(0, 1), Check.NONE);
+    }
+
+    private static void promise20Soonest() {
+        C.sentence("KNOWS a SCENT soonest");
+        TubSteps x = Check.spa("bather; bather in 1 with 1; bather in 2 with 1");
+        // 64 and 48 are as much as 100 and an eighth of its own 64
+        C.due("2 behind two HOURS", x.seat(0, 1), 2);
+        x.scent(7, 1, 400);
+        C.due("but 8 behind one", x.seat(0, 1), 8);
+        x.scent(7, 1, 0);
+        x.scent(6, 1, 400);
+        C.due("7 behind one", x.seat(0, 1), 7);
+        x.scent(6, 1, 0);
+        x.scent(9, 1, 9999);
+        C.due("what is in 9 does not count", x.seat(0, 1), 2);
     }
 
     private static void promise20None() {
@@ -253,8 +269,10 @@ final class EdgesChoicesTest {
         }
         C.due("all eight or none", all.plugFor(1, 1), 3);
         for (int bather = 0; bather < 8; bather++) {
-            all.change(bather, 3, 2);
+            all.change(bather, 3, bather == 5 ? 0 : 2);
         }
+        C.due("seven of eight KNOW already", all.plugFor(1, 1), 3);
+        all.change(5, 3, 2);
         C.due("all eight KNOW already", all.plugFor(1, 1), 0);
     }
 

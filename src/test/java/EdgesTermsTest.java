@@ -179,12 +179,12 @@ final class EdgesTermsTest {
                 C.due("tub(" + tub + ", " + scent + ")", x.tub(tub, scent), 300 * (tub - 1) + 3 * scent);
             }
         }
-        x.plug(9);
         x.scent(9, 0, 9999);
-        x.warm(8, 4);
+        x.warm(9, 99);
         x.plug(8);
         x.go(1);
         C.due("what was in 9 is gone", x.tub(9, 6), 0);
+        C.due("and its WARMTH", x.tub(9, 4), 0);
     }
 
     private static void term2QuotientsAreCut() {

@@ -166,7 +166,18 @@ final class EdgesTextTest {
         C.due("tub(9, 4)", x.tub(9, 4), 99);
         C.due("tub(9, 3)", x.tub(9, 3), 9999);
         C.due("tub(9, 6)", x.tub(9, 6), 9999);
-        C.due("fresh(0)", x.fresh(0), 99);
+        C.due("fresh(50)", x.fresh(50), 99);
+        x.warm(0, 50);
+        x.scent(0, 0, 50);
+        C.due("the least of each", Check.read(x, "tub 0 0 of 0 0; fresh 0"), 2);
+        C.due("tub(0, 4)", x.tub(0, 4), 0);
+        C.due("tub(0, 6)", x.tub(0, 6), 0);
+        C.due("fresh(50)", x.fresh(50), 0);
+        x.warm(0, 50);
+        C.due("plug 0; plug 9", Check.read(x, "plug 0; plug 9"), 2);
+        C.due("tub(0, 4)", x.tub(0, 4), 0);
+        C.due("tub(9, 4)", x.tub(9, 4), 0);
+        C.due("tub(9, 6)", x.tub(9, 6), 0);
     }
 
     private static void promise33Numbers() {
@@ -242,6 +253,9 @@ final class EdgesTextTest {
         String[] words = {"bather", "duchess", "clerk", "spy", "lamplighter", "sad", "consul", "tub", "fresh", "plug"};
         for (String word : words) {
             fault("|" + word + "s");
+            fault("|" + word + "z");
+            fault("|q" + word.substring(1) + " 1 1");
+            fault("|" + word.substring(0, word.length() - 1) + "q 1 1");
             fault("|" + word + "a 1 1");
             fault("|" + word.substring(0, word.length() - 1));
             fault("|" + word.substring(1));

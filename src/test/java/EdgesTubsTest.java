@@ -272,6 +272,12 @@ final class EdgesTubsTest {
         C.due("of(0, 1)", x.of(0, 1), 3);
         C.due("of(2, 1)", x.of(2, 1), 3);
         C.due("it is no finding", x.status(-1), 0);
+        TubSteps ends = Edges.full();
+        C.due("swap(0, 7)", ends.swap(0, 7), 1);
+        C.due("of(0, 1)", ends.of(0, 1), 7);
+        C.due("of(7, 1)", ends.of(7, 1), 0);
+        C.due("tub(0, 5)", ends.tub(0, 5), 128);
+        C.due("tub(7, 5)", ends.tub(7, 5), 1);
     }
 
     private static void promise10OneAndTheSame() {

@@ -17,10 +17,12 @@ final class Seen {
     static Seen all(TubSteps x) {
         Seen seen = new Seen(x);
         seen.spa();
+        seen.whatWillBe();
         seen.sheets();
         seen.tape();
         seen.ask("undo");
         seen.spa();
+        seen.whatWillBe();
         seen.ask("tear");
         return seen;
     }
@@ -57,6 +59,19 @@ final class Seen {
             ask("as", spot, 0);
         }
         ask("fresh", 5);
+    }
+
+    private void whatWillBe() {
+        for (int tub = 0; tub < 10; tub++) {
+            ask("ahead", tub, tub % 5, 1);
+        }
+        int bathers = x.count(1);
+        for (int bather = 0; bather < bathers; bather++) {
+            ask("knows", bather, 9);
+        }
+        ask("go", 1);
+        ask("count", 3);
+        ask("count", 4);
     }
 
     private void sheets() {
