@@ -43,6 +43,11 @@ final class FaceTest {
             C.holds(method + " is of the face or private", isPublic || Modifier.isPrivate(method.getModifiers()));
             C.holds(method + " bears no other's name", isPublic == names.contains(method.getName()));
         }
+        for (Class<?> inside : TubSteps.class.getDeclaredClasses()) {
+            for (Method method : inside.getDeclaredMethods()) {
+                C.holds(method + " bears no name of the face", !names.contains(method.getName()));
+            }
+        }
     }
 
     private static void members() {
